@@ -1751,9 +1751,12 @@ public final class CliffCars {
 
     /** The least water by which sets are carried in just so many trips. */
     private static final class Plan {
+        private static final int LAST = SETS * SETS - 1;
+
         private final Groups groups;
         private final int[] known = new int[SETS * SETS];
         private final int[] next = new int[SETS * SETS];
+        private int trips;
         private int firstAbove;
         private int firstBelow;
 
@@ -1767,23 +1770,23 @@ public final class CliffCars {
                 known[pair] = NEVER;
             }
             known[0] = 0;
-        }
-
-        private int knownFor(int above, int below) {
-            int pair = above * SETS + below;
-            return pair >= 0 && pair < known.length ? known[pair] : NEVER;
+            trips = 0;
         }
 
         void allowOneTripMore() {
+            trips++;
             for (int above = 0; above <= groups.allAbove; above++) {
                 for (int below = 0; below <= groups.allBelow; below++) {
                     int pair = above * SETS + below;
-                    if (pair < next.length) {
-                        next[pair] = leastFor(above, below);
-                    }
+                    next[pair & LAST] = haveSeats(above, below) ? leastFor(above, below) : NEVER;
                 }
             }
             System.arraycopy(next, 0, known, 0, known.length);
+        }
+
+        private boolean haveSeats(int above, int below) {
+            int places = trips * groups.seatCount;
+            return Integer.bitCount(above) <= places && Integer.bitCount(below) <= places;
         }
 
         /** Which trip goes first is all one for the water: it may be that of the first party. */
@@ -1799,7 +1802,7 @@ public final class CliffCars {
             for (int i = 0; i < SETS; i++) {
                 int group = part | mustAbove;
                 if (Integer.bitCount(group) <= groups.seatCount) {
-                    least = Math.min(least, leastWith(group, above, below, mustBelow));
+                    least = Math.min(least, leastWith(group, above ^ group, below, mustBelow));
                 }
                 if (part == 0) {
                     break;
@@ -1809,13 +1812,13 @@ public final class CliffCars {
             return least;
         }
 
-        private int leastWith(int group, int above, int below, int mustBelow) {
+        private int leastWith(int group, int aboveLeft, int below, int mustBelow) {
             int mayBelow = below ^ mustBelow;
             int least = NEVER;
             int part = mayBelow;
             for (int i = 0; i < SETS; i++) {
                 int lowerGroup = part | mustBelow;
-                int rest = knownFor(above ^ group, below ^ lowerGroup);
+                int rest = known[(aboveLeft * SETS + (below ^ lowerGroup)) & LAST];
                 if (rest < least && Integer.bitCount(lowerGroup) <= groups.seatCount) {
                     least = Math.min(least, rest + groups.waterFor(group, lowerGroup));
                 }
@@ -1832,7 +1835,8 @@ public final class CliffCars {
             int least = NEVER;
             for (int above = 0; above <= groups.allAbove; above++) {
                 for (int below = 0; below <= groups.allBelow; below++) {
-                    int rest = knownFor(groups.allAbove ^ above, groups.allBelow ^ below);
+                    int left = (groups.allAbove ^ above) * SETS + (groups.allBelow ^ below);
+                    int rest = known[left & LAST];
                     if (rest < least && groups.mayGo(above, below)) {
                         int water = rest + groups.waterFor(above, below);
                         if (water < least) {
