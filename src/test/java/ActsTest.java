@@ -258,6 +258,15 @@ public final class ActsTest {
         due.is("n0 was done", idle.count(12), 1);
         day(idle, "n9n9", 2);
         due.row("18 minutes", idle, 0, 74);
+        day(idle, "o12", 1);
+        due.row("74 - 12", idle, 0, 62);
+        day(idle, "o50", 1);
+        due.row("62 - 50", idle, 0, 12);
+        day(idle, "s3s1s2", 3);
+        due.is("SEATS", idle.count(2), 2);
+        day(idle, "s3g9", 2);
+        due.is("SEATS", idle.count(2), 3);
+        due.is("GRIP", idle.count(3), 9);
     }
 
     private static void daysThatStop() {
@@ -325,6 +334,10 @@ public final class ActsTest {
         day(cars, "n0".repeat(29) + "*l00", -61);
         day(cars, "n0".repeat(40), -61);
         day(cars, "n0".repeat(29) + "*?" + "0".repeat(20), -60);
+        day(cars, "n0".repeat(29) + "*l0?", -61);
+        day(cars, "*".repeat(59) + "?", -60);
+        day(cars, "*".repeat(60), 0);
+        day(cars, "*".repeat(61), -61);
         day(cars, "n0".repeat(28) + "*o99", 28);
         due.row("nobody waits", cars, 1, 20);
     }

@@ -264,6 +264,9 @@ public final class ComingTest {
         CliffCars two = Due.with("11");
         due.is("of equal ones the fewest", two.soonest(), 2);
         due.row("of equal ones the fewest", two, 2, 1, 1);
+        CliffCars four = Due.with("1111");
+        due.is("3 SEATS at most", four.soonest(), 2);
+        due.row("3 SEATS at most", four, 4, 2, 2);
         CliffCars stuckByOne = Due.with("/99", "0");
         due.is("by 1 the second never goes", stuckByOne.soonest(), 2);
         due.row("100: by none", stuckByOne, 100, 1, 1);
