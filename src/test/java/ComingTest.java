@@ -17,29 +17,6 @@ public final class ComingTest {
         due.finish();
     }
 
-    /** One below that needs 14; a drop comes each seventh minute: it goes in minute 99. */
-    private static CliffCars goesInMinute99() {
-        CliffCars cars = Due.with("/9", "n=6");
-        cars.drains(20);
-        cars.grips(5);
-        return cars;
-    }
-
-    /** One below that needs 15; a drop comes in the first of seven minutes: it goes in minute 100. */
-    private static CliffCars goesInMinute100() {
-        CliffCars cars = Due.with("/9", "n=0");
-        cars.drains(20);
-        cars.grips(6);
-        return cars;
-    }
-
-    private static CliffCars neverGoes() {
-        CliffCars cars = Due.with("/99", "0");
-        cars.grips(9);
-        cars.needs();
-        return cars;
-    }
-
     private static void needs() {
         due.is("nobody waits", new CliffCars().needs(), -2);
         CliffCars cars = Due.with("531/427");
@@ -78,7 +55,7 @@ public final class ComingTest {
         due.row("DOWN, UP of all", cars, 9, 13, 0, 0);
         due.is("later(100)", cars.later(100), -1);
         due.row("the ROW stays", cars, 9, 13, 0, 0);
-        CliffCars stuck = neverGoes();
+        CliffCars stuck = Scenes.neverGoes();
         due.is("27 of 20", stuck.later(50), 20);
         due.row("stuck", stuck, 0, 0, 0, 2);
         CliffCars full = new CliffCars();
@@ -102,11 +79,11 @@ public final class ComingTest {
         due.is("3, 6, 9, then at 12", slow.done(), 4);
         due.row("12 less 11 and 3", slow, 4, 1);
 
-        CliffCars last = goesInMinute99();
+        CliffCars last = Scenes.goesInMinute99();
         due.is("behind 99", last.done(), 99);
         due.row("behind 99", last, 0, 1);
-        due.is("behind 100", goesInMinute100().done(), -2);
-        CliffCars stuck = neverGoes();
+        due.is("behind 100", Scenes.goesInMinute100().done(), -2);
+        CliffCars stuck = Scenes.neverGoes();
         due.is("behind none", stuck.done(), -2);
         due.row("the ROW stays", stuck, 0, 18);
     }
@@ -160,10 +137,10 @@ public final class ComingTest {
         due.is("the second: 4, 7, 10, 13", slow.when(1, 1), 7 + 1);
         due.row("the second", slow, 6);
 
-        CliffCars last = goesInMinute99();
+        CliffCars last = Scenes.goesInMinute99();
         due.is("in minute 99", last.when(1, 0), 99);
         due.row("in minute 99", last, 98);
-        CliffCars later = goesInMinute100();
+        CliffCars later = Scenes.goesInMinute100();
         later.needs();
         due.is("in minute 100", later.when(1, 0), -2);
         due.row("the ROW stays", later, 0, 9);
@@ -216,11 +193,11 @@ public final class ComingTest {
         due.is("3 in minute 1; 4, 7, .. 22: 2 in minute 8", uneven.waiting(), 3 + 2 * 8);
         due.row("the longest", uneven, 8);
 
-        CliffCars last = goesInMinute99();
+        CliffCars last = Scenes.goesInMinute99();
         due.is("in minute 99", last.waiting(), 99);
         due.row("in minute 99", last, 99);
-        due.is("in minute 100", goesInMinute100().waiting(), -2);
-        CliffCars stuck = neverGoes();
+        due.is("in minute 100", Scenes.goesInMinute100().waiting(), -2);
+        CliffCars stuck = Scenes.neverGoes();
         due.is("never", stuck.waiting(), -2);
         due.row("the ROW stays", stuck, 0, 18);
     }
@@ -270,14 +247,14 @@ public final class ComingTest {
         CliffCars stuckByOne = Due.with("/99", "0");
         due.is("by 1 the second never goes", stuckByOne.soonest(), 2);
         due.row("100: by none", stuckByOne, 100, 1, 1);
-        CliffCars stuck = neverGoes();
+        CliffCars stuck = Scenes.neverGoes();
         stuck.drains(3);
         due.is("by none", stuck.soonest(), -2);
         due.row("the ROW stays", stuck, 0, 18);
-        CliffCars last = goesInMinute99();
+        CliffCars last = Scenes.goesInMinute99();
         due.is("behind 99", last.soonest(), 1);
         due.row("behind 99", last, 99, 99, 99);
-        due.is("behind 100", goesInMinute100().soonest(), -2);
+        due.is("behind 100", Scenes.goesInMinute100().soonest(), -2);
     }
 
     private static void questionsChangeNothing() {

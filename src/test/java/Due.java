@@ -1,8 +1,13 @@
+import java.lang.reflect.InvocationTargetException;
+import java.lang.reflect.Method;
+import java.util.Arrays;
+import java.util.Comparator;
 import java.util.NoSuchElementException;
 
 /** Compares answers with what is due, counts, and ends a test's run. */
 final class Due {
     private final String test;
+    private String sentence = "";
     private int asked;
     private int wrong;
 
@@ -10,11 +15,51 @@ final class Due {
         this.test = test;
     }
 
+    /** What a test of its own is about: a promise's number, and the words that name the edge. */
+    void about(int promise, String words) {
+        if (!sentence.isEmpty()) {
+            fail("is about a second sentence, too: " + words);
+        }
+        sentence = "promise " + promise + " (" + words + "): ";
+    }
+
+    /** Runs a class whose tests are its methods without parameters, each about one sentence. */
+    void runEach(Class<?> tests) {
+        Method[] methods = tests.getDeclaredMethods();
+        Arrays.sort(methods, Comparator.comparing(Method::getName));
+        for (Method method : methods) {
+            if (method.getParameterCount() == 0 && method.getReturnType() == void.class) {
+                runOne(method);
+            }
+        }
+        finish();
+    }
+
+    private void runOne(Method method) {
+        int askedBefore = asked;
+        sentence = "";
+        try {
+            method.setAccessible(true);
+            method.invoke(null);
+        } catch (InvocationTargetException e) {
+            fail(method.getName() + " threw " + e.getCause());
+        } catch (IllegalAccessException e) {
+            fail(method.getName() + " can't be run");
+        }
+        if (sentence.isEmpty() || asked == askedBefore) {
+            fail(method.getName() + " is about no sentence, or asks nothing");
+        }
+    }
+
+    private void fail(String what) {
+        wrong++;
+        System.out.println(test + ": " + sentence + what);
+    }
+
     void is(String call, long got, long want) {
         asked++;
         if (got != want) {
-            wrong++;
-            System.out.println(test + ": " + call + " answered " + got + ", due is " + want);
+            fail(call + " answered " + got + ", due is " + want);
         }
     }
 
@@ -30,20 +75,17 @@ final class Due {
             try {
                 is(call + ": row(" + i + ")", cars.row(i), want[i]);
             } catch (NoSuchElementException e) {
-                wrong++;
-                System.out.println(test + ": " + call + ": row(" + i + ") threw, due is " + want[i]);
+                fail(call + ": row(" + i + ") threw, due is " + want[i]);
             }
         }
         noRow(call, cars, want.length);
         noRow(call, cars, -1);
     }
 
-    private void noRow(String call, CliffCars cars, int i) {
+    void noRow(String call, CliffCars cars, int i) {
         asked++;
         try {
-            long got = cars.row(i);
-            wrong++;
-            System.out.println(test + ": " + call + ": row(" + i + ") answered " + got + ", due is a throw");
+            fail(call + ": row(" + i + ") answered " + cars.row(i) + ", due is a throw");
         } catch (NoSuchElementException e) {
             return;
         }
@@ -52,9 +94,7 @@ final class Due {
     void noParty(CliffCars cars, int side, int k) {
         asked++;
         try {
-            int got = cars.party(side, k);
-            wrong++;
-            System.out.println(test + ": party(" + side + ", " + k + ") answered " + got + ", due is a throw");
+            fail("party(" + side + ", " + k + ") answered " + cars.party(side, k) + ", due is a throw");
         } catch (NoSuchElementException e) {
             return;
         }
@@ -62,6 +102,14 @@ final class Due {
 
     /** Who waits, as a text: ABOVE, a slash, BELOW. */
     void waits(String call, CliffCars cars, String want) {
+        String got = waitsOf(cars);
+        asked++;
+        if (!got.equals(want)) {
+            fail(call + ": " + got + " wait, due are " + want);
+        }
+    }
+
+    private static String waitsOf(CliffCars cars) {
         StringBuilder got = new StringBuilder();
         for (int k = 0; k < cars.count(0); k++) {
             got.append(cars.party(0, k));
@@ -70,10 +118,31 @@ final class Due {
         for (int k = 0; k < cars.count(1); k++) {
             got.append(cars.party(1, k));
         }
+        return got.toString();
+    }
+
+    /** All that can be seen of an object without a change of it, but THE TEXT. */
+    static String shape(CliffCars cars) {
+        StringBuilder seen = new StringBuilder(waitsOf(cars));
+        for (int what = 2; what <= 12; what++) {
+            seen.append(' ').append(cars.count(what));
+        }
+        return seen.append(rowOf(cars)).toString();
+    }
+
+    private static String rowOf(CliffCars cars) {
+        StringBuilder seen = new StringBuilder(" ROW");
+        for (int i = 0; i < cars.count(13); i++) {
+            seen.append(' ').append(cars.row(i));
+        }
+        return seen.toString();
+    }
+
+    void same(String call, CliffCars cars, String was) {
+        String got = shape(cars);
         asked++;
-        if (!got.toString().equals(want)) {
-            wrong++;
-            System.out.println(test + ": " + call + ": " + got + " wait, due are " + want);
+        if (!got.equals(was)) {
+            fail(call + ": is " + got + ", was " + was);
         }
     }
 
