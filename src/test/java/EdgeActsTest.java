@@ -496,6 +496,7 @@ public final class EdgeActsTest {
         bad("n0".repeat(29) + "*n0", 60);
         bad("n0".repeat(29) + "*n?", 60);
         bad("n0".repeat(29) + "*l00", 60);
+        bad("n0".repeat(29) + "*l0?", 60);
         bad("n0".repeat(29) + "l00", 60);
         bad("n0".repeat(29) + "l0?", 60);
         bad("n0".repeat(29) + "*?0", 59);
@@ -522,6 +523,7 @@ public final class EdgeActsTest {
         }
         for (int left = 11; left >= 0; left--) {
             due.is("undo()", cars.undo(), left);
+            due.is("CISTERN", cars.count(4), 19 - left);
         }
         due.is("the first one stays done", cars.count(4), 19);
         due.is("undo()", cars.undo(), -1);

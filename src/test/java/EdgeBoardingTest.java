@@ -336,6 +336,9 @@ public final class EdgeBoardingTest {
         CliffCars cars = Scenes.by("12345", 1, 0);
         due.is("all five", cars.spare(), 15);
         due.row("all five", cars, 5, 5);
+        CliffCars uneven = Scenes.by("9/443", 2, 0);
+        due.is("9 for 4 and 4, none for 3", uneven.spare(), 1);
+        due.row("one of two", uneven, 1, 2);
         CliffCars dry = Scenes.by("9/99999", 1, 0);
         dry.drains(20);
         due.is("CISTERN aside", dry.spare(), 0);

@@ -45,6 +45,16 @@ public final class EdgeComingTest {
         due.row("DOWN, UP of all", cars, 8, 6, 1, 1);
     }
 
+    private static void whoWaitsLater() {
+        due.about(19, "the ROW: DOWN, UP then, how many wait ABOVE, BELOW then");
+        CliffCars cars = Due.with("12345/9");
+        due.is("20 less 8, and 3", cars.later(1), 15);
+        due.row("3 ABOVE, nobody BELOW", cars, 3, 9, 3, 0);
+        CliffCars stuck = Scenes.neverGoes();
+        due.is("later(99)", stuck.later(99), 20);
+        due.row("nobody ABOVE, 2 BELOW", stuck, 0, 0, 0, 2);
+    }
+
     private static void laterRefused() {
         due.about(19, "NONE: another n.");
         CliffCars cars = Scenes.busy();
@@ -213,6 +223,17 @@ public final class EdgeComingTest {
         slow.seats(1);
         slow.grips(0);
         due.is("17 and 1 of two times 9", slow.enough(), 17);
+    }
+
+    private static void tripsFromNowOn() {
+        due.about(23, "the ROW: how many TRIPS");
+        CliffCars cars = Due.with("/99999", "0");
+        cars.seats(1);
+        due.is("5 times 11", cars.enough(), 55);
+        due.row("5 TRIPS", cars, 5);
+        cars.trip();
+        due.is("4 times 11", cars.enough(), 44);
+        due.row("4 TRIPS, the one that was aside", cars, 4);
     }
 
     /** 5 TRIPS need 5 times 18 at most, so that no object can answer -2. */

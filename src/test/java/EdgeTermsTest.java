@@ -129,6 +129,9 @@ public final class EdgeTermsTest {
         spring("2<2", 0);
         spring("2>2", 0);
         spring("2=2", 1);
+        spring("5+(2<2)", 5);
+        spring("5+(2>2)", 5);
+        spring("5+(2=3)", 5);
         spring("(1<2)<3", 1);
         spring("3>(2>1)", 1);
         spring("(1<2)+(2<3)", 2);
@@ -316,6 +319,25 @@ public final class EdgeTermsTest {
         due.is("20 of 19", less.trip(), -3);
     }
 
+    /** What SPRING looks at is as the TRIP leaves it, but for MINUTES. */
+    private static void minuteBehindATrip() {
+        due.about(8, "TRIPS are 1 more; then a MINUTE goes by");
+        tripBy("t*5", 16 + 5);
+        tripBy("n*5", 16);
+        tripBy("u", 16 + 1);
+        tripBy("d*2", 16 + 4);
+        tripBy("w", 16 + 3);
+        tripBy("c-12", 16 + 4);
+    }
+
+    /** 1 and 2 go down for 1 and 4 up: 4 of 20, and what the rule gives; 3 stays above, 2 and 6 below. */
+    private static void tripBy(String rule, int cistern) {
+        CliffCars cars = Due.with("123/1426", rule);
+        due.is("trip() by " + rule, cars.trip(), 4);
+        due.row("trip() by " + rule, cars, 4, cistern);
+        due.waits("trip() by " + rule, cars, "3/26");
+    }
+
     private static void thoseBehindMoveUp() {
         due.about(9, "the parties of the groups are gone, those behind them move up");
         CliffCars cars = Due.with("12345/98765");
@@ -444,6 +466,19 @@ public final class EdgeTermsTest {
         due.same("refused", cars, was);
         Due.write(cars, "9").rule();
         due.is("not refused", cars.count(14), 0);
+    }
+
+    private static void ruleBehindARefusedOne() {
+        due.about(5, "Refused calls answer NONE, or false, and change nothing");
+        CliffCars cars = new CliffCars();
+        for (String wrong : new String[] {"((((1", "1<2<", "-(-(1+2*", "1+2*3-", "?"}) {
+            due.is("rule() of " + wrong, Due.write(cars, wrong).rule() < 0, true);
+            due.is("rule() of brackets", Due.write(cars, "((((7))))").rule(), 0);
+            due.is("SPRING", cars.count(9), 7);
+            due.is("law() of " + wrong, Due.write(cars, wrong).law() <= -10000, true);
+            due.is("rule() that compares", Due.write(cars, "1<2+3").rule(), 0);
+            due.is("SPRING", cars.count(9), 1);
+        }
     }
 
     private static void textIsEmptiedByDay() {
