@@ -95,6 +95,19 @@ public final class EdgeBoardingTest {
         due.is("one party in two", Due.with("9").least(2), -2);
     }
 
+    private static void noMoreThanSeatsInEachTrip() {
+        due.about(28, "each of two groups");
+        CliffCars cars = Scenes.by("911/333", 2, 0);
+        due.is("9 takes two of three, 1 takes the third", cars.least(3), 2);
+        due.row("9 takes two of three, 1 takes the third", cars, 1, 3);
+        CliffCars three = Scenes.by("119/333", 3, 0);
+        due.is("9 takes all three", three.least(3), 0);
+        due.row("1 goes alone first", three, 1, 0);
+        CliffCars two = Scenes.by("119/333", 2, 0);
+        due.is("9 takes two of three, 1 takes the third", two.least(3), 2);
+        due.row("1 goes alone first", two, 1, 0);
+    }
+
     private static void leastWithoutCistern() {
         due.about(28, "CISTERN and minutes aside");
         CliffCars cars = Due.with("1/9", "0");

@@ -471,7 +471,7 @@ public final class EdgeTermsTest {
     private static void ruleBehindARefusedOne() {
         due.about(5, "Refused calls answer NONE, or false, and change nothing");
         CliffCars cars = new CliffCars();
-        for (String wrong : new String[] {"((((1", "1<2<", "-(-(1+2*", "1+2*3-", "?"}) {
+        for (String wrong : new String[] {"((((1", "1<2<", "-(-(1+2*", "1+2*3-", "-", "?"}) {
             due.is("rule() of " + wrong, Due.write(cars, wrong).rule() < 0, true);
             due.is("rule() of brackets", Due.write(cars, "((((7))))").rule(), 0);
             due.is("SPRING", cars.count(9), 7);
