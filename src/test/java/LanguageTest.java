@@ -60,6 +60,10 @@ public final class LanguageTest {
 
     public static void main(String[] args) throws IOException {
         JavaCompiler compiler = ToolProvider.getSystemJavaCompiler();
+        if (compiler == null) {
+            System.out.println("LanguageTest: this java has no compiler inside to read the class with");
+            return;
+        }
         try (StandardJavaFileManager files = compiler.getStandardFileManager(null, null, null)) {
             JavacTask task = (JavacTask) compiler.getTask(null, files, null, List.of("-proc:none"), null,
                     files.getJavaFileObjects(Path.of("src/main/java/CliffCars.java")));
